@@ -405,7 +405,6 @@ public final class SeedDrawers {
         void becomeNote(int v) {
             has = HAS_NOTE;
             noteNumber = v;
-            places = 0;
         }
 
         void becomeRow(int kind, int n) {

@@ -32,7 +32,7 @@ public final class ModelTest {
         int b = dice.drawer(drawers);
         int i = dice.index();
         int j = dice.index();
-        switch (dice.below(30)) {
+        switch (dice.below(33)) {
             case 0: case 1: case 2: {
                 int kind = dice.below(40) == 0 ? dice.odd() : dice.below(7);
                 int n = dice.below(12) == 0 ? dice.odd() : dice.below(13);
@@ -75,18 +75,21 @@ public final class ModelTest {
             case 27: {
                 int k = dice.below(10) - 1;
                 due("met", x.met(k), m.met(k), k);
-                due("faults", x.faults(k), m.faults(k), k);
                 break;
             }
             case 28: {
+                int of = dice.below(7) - 1;
+                due("faults", x.faults(of), m.faults(of), of);
+                break;
+            }
+            case 29: {
                 int what = dice.below(10) == 0 ? dice.odd() : dice.below(3);
                 due("told", x.told(a, what), m.told(a, what), a, what);
                 break;
             }
-            default:
-                due("fault", x.fault(), m.latest);
-                due("hand", x.hand(), Model.kindOf(m.hand));
-                due("value", x.value(), Model.valueOf(m.hand));
+            case 30: due("fault", x.fault(), m.latest); break;
+            case 31: due("hand", x.hand(), Model.kindOf(m.hand)); break;
+            default: due("value", x.value(), Model.valueOf(m.hand));
         }
     }
 

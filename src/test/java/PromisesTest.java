@@ -393,6 +393,8 @@ public final class PromisesTest {
         rowIs("what was laid stays", x, 3, 20, 30, 3, 4, 5);
         due("the target ends", x.pour(2, 0, 3, 4, 2), -99);
         rowIs("what was laid stays", x, 3, 20, 30, 3, 4, 10);
+        due("far beyond the target", x.pour(2, 0, 3, 20, 1), -100);
+        due("far beyond the source", x.pour(2, 20, 3, 0, 1), -100);
         due("from nothing to a note", x.pour(0, 0, 1, 0, 1), -100);
         due("fault()", x.fault(), 1);
         due("from a note to nothing", x.pour(1, 0, 0, 0, 1), -100);
@@ -406,10 +408,12 @@ public final class PromisesTest {
         due("fault()", x.fault(), 4);
         due("EMPTY to counts", x.pour(4, 1, 2, 0, 1), -100);
         due("fault()", x.fault(), 4);
+        due("a card far beyond the target", x.pour(4, 0, 2, 20, 1), -100);
+        due("fault()", x.fault(), 3);
         due("EMPTY to no such place", x.pour(4, 1, 2, 3, 1), -100);
         due("fault()", x.fault(), 3);
         rowIs("a fault changes nothing", x, 2, 10, 20, 30);
-        due("faults(0)", x.faults(0), 9);
+        due("faults(0)", x.faults(0), 12);
         for (int d : NO_DRAWERS) {
             due("pour(" + d + ", 0, 2, 0, 1)", x.pour(d, 0, 2, 0, 1), UNKNOWN);
             due("pour(2, 0, " + d + ", 0, 1)", x.pour(2, 0, d, 0, 1), UNKNOWN);
@@ -420,7 +424,7 @@ public final class PromisesTest {
         for (int[] w : wrong) {
             due("pour(0, " + w[0] + ", 2, " + w[1] + ", " + w[2] + ")", x.pour(0, w[0], 2, w[1], w[2]), OUTSIDE);
         }
-        due("refused is no fault", x.faults(0), 9);
+        due("refused is no fault", x.faults(0), 12);
     }
 
     private static void swap() {
@@ -430,6 +434,10 @@ public final class PromisesTest {
         due("swap(2, 2, 3, 0)", x.swap(2, 2, 3, 0), 1);
         rowIs("swapped", x, 2, 10, 20, 1);
         rowIs("swapped", x, 3, 30, 2);
+        x.row(4, COUNTS, 12);
+        due("swap(3, 1, 4, 11)", x.swap(3, 1, 4, 11), 1);
+        due("swap(4, 11, 3, 1)", x.swap(4, 11, 3, 1), 1);
+        rowIs("swapped back", x, 3, 30, 2);
         due("swap(2, 0, 2, 2)", x.swap(2, 0, 2, 2), 1);
         rowIs("in one row", x, 2, 1, 20, 10);
         due("swap(2, 1, 2, 1)", x.swap(2, 1, 2, 1), 1);
@@ -599,15 +607,15 @@ public final class PromisesTest {
         due("run() without orders", x.run(), 0);
         x.order(0, 2, 2, 3, 4);
         x.order(1, 0, 0, 3, 1);
-        x.order(2, 2, 0, 3, 0);
+        x.order(2, 2, 0, 3, 4);
         due("nothing is done ahead of run()", x.hand(), NONE);
         due("run()", x.run(), 3);
         due("the hand has what was taken", x.hand(), COUNTS);
         due("the hand has what was taken", x.value(), 30);
-        rowIs("done", x, 2, 1, 20, 30);
-        rowIs("done", x, 3, 10, 30, 3, 4, 5);
+        rowIs("done", x, 2, 5, 20, 30);
+        rowIs("done", x, 3, 1, 30, 3, 4, 10);
         due("the orders are none then", x.run(), 0);
-        rowIs("done once", x, 2, 1, 20, 30);
+        rowIs("done once", x, 2, 5, 20, 30);
         x.drop();
         x.row(4, CARDS, 1);
         x.order(1, 0, 0, 0, 0);
@@ -620,7 +628,7 @@ public final class PromisesTest {
         x.order(1, 2, 0, 3, 20);
         x.order(1, 0, 20, 3, 0);
         due("a fault ends just that one", x.run(), 2);
-        rowIs("the later ones are done", x, 3, 20, 30, 3, 4, 5);
+        rowIs("the later ones are done", x, 3, 20, 30, 3, 4, 10);
         due("faults(0)", x.faults(0), 2);
     }
 
@@ -735,6 +743,7 @@ public final class PromisesTest {
         for (int kind = 0; kind < 7; kind++) {
             x.row(3, kind, kind);
             due("a row of " + kind, x.told(3, 0), 2 + kind);
+            due("a row of " + kind, x.told(3, 1), 1);
         }
         due("told(2, 1)", x.told(2, 1), 1);
         due("told(2, 2)", x.told(2, 2), 0);
@@ -802,19 +811,20 @@ public final class PromisesTest {
     private static void rowsAreUsedAgain() {
         check.part("promises 2 to 5, many times");
         SeedDrawers x = new SeedDrawers();
-        for (int round = 0; round < 8; round++) {
+        for (int round = 1; round <= 6; round++) {
             for (int d = 0; d < 8; d++) {
                 due("row(" + d + ", 3, 2)", x.row(d, COUNTS, 2), 2);
+                due("a new row has no note", x.told(d, 2), 0);
                 due("sum of a new row", x.sum(d), 0);
                 x.think(COUNTS, 100 * round + d);
+                x.lay(d, 0);
                 x.lay(d, 1);
             }
             for (int d = 0; d < 8; d++) {
-                due("sum(" + d + ")", x.sum(d), 100 * round + d);
+                due("sum(" + d + ")", x.sum(d), 2 * (100 * round + d));
                 due("told(" + d + ", 1)", x.told(d, 1), 1);
+                due("note(" + d + ", 5)", x.note(d, 5), 1);
             }
-            x.note(round, round);
-            due("note", x.told(round, 2), round);
         }
     }
 }
