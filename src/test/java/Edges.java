@@ -57,7 +57,7 @@ abstract class Edges {
         SeedDrawers y = scene.get();
         due(name, call.applyAsLong(x), answer);
         sameFaults(name, Scene.faults(x), Scene.faults(y));
-        same(name, Scene.shown(x), Scene.shown(y));
+        alike(name, x, y);
     }
 
     /** A call on a full scene comes to this fault, answers -10 less it, and changes nothing else. */
@@ -76,6 +76,11 @@ abstract class Edges {
         faults[1]++;
         faults[1 + fault]++;
         sameFaults(name, Scene.faults(x), faults);
+        alike(name, x, y);
+    }
+
+    /** Nothing tells two objects apart, but for their faults; both are used up by it. */
+    static void alike(String name, SeedDrawers x, SeedDrawers y) {
         same(name, Scene.shown(x), Scene.shown(y));
     }
 

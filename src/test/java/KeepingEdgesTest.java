@@ -81,6 +81,7 @@ public final class KeepingEdgesTest extends Edges {
         test("2: a new ROW of a KIND", KeepingEdgesTest::rowOfEveryKind);
         test("2: a new ROW in place of NOTHING, a NOTE, a ROW", KeepingEdgesTest::rowInPlace);
         test("2: a new ROW in place of one that others have", KeepingEdgesTest::rowInPlaceOfSame);
+        test("2: a new ROW where all DRAWERS have one", KeepingEdgesTest::rowWhereAllHaveOne);
         test("2: UNKNOWN", KeepingEdgesTest::rowUnknown);
         test("2: OUTSIDE: KIND", KeepingEdgesTest::rowOfNoKind);
         test("2: OUTSIDE: n is not 0 .. 12", KeepingEdgesTest::rowOfNoSize);
@@ -132,6 +133,25 @@ public final class KeepingEdgesTest extends Edges {
         due("told(3, 1)", x.told(3, 1), 1);
     }
 
+    private static void rowWhereAllHaveOne() {
+        for (int changed = 0; changed < 8; changed++) {
+            SeedDrawers x = withEightRows();
+            due("row(" + changed + ", 3, 2)", x.row(changed, COUNTS, 2), 2);
+            for (int d = 0; d < 8; d++) {
+                due("told(" + d + ", 1)", x.told(d, 1), 1);
+                rowIs(x, d, d == changed ? "0 0" : (10 + d) + " " + (20 + d));
+            }
+        }
+    }
+
+    private static SeedDrawers withEightRows() {
+        SeedDrawers x = new SeedDrawers();
+        for (int d = 0; d < 8; d++) {
+            Scene.fill(x, d, COUNTS, 10 + d, 20 + d);
+        }
+        return x;
+    }
+
     private static void rowUnknown() {
         for (int d : NO_DRAWERS) {
             changesNothing("row(" + d + ", 3, 1)", x -> x.row(d, COUNTS, 1), UNKNOWN);
@@ -175,6 +195,7 @@ public final class KeepingEdgesTest extends Edges {
     private static void note() {
         test("3: A DRAWER has a NOTE: 1 (an int)", KeepingEdgesTest::noteOfEveryInt);
         test("3: a NOTE in place of NOTHING, a NOTE, a ROW", KeepingEdgesTest::noteInPlace);
+        test("3: a NOTE where all DRAWERS have a ROW", KeepingEdgesTest::noteWhereAllHaveARow);
         test("3: UNKNOWN", KeepingEdgesTest::noteUnknown);
     }
 
@@ -199,6 +220,18 @@ public final class KeepingEdgesTest extends Edges {
         due("told(3, 0)", x.told(3, 0), 2 + COUNTS);
         due("told(3, 1)", x.told(3, 1), 1);
         rowIs(x, 3, "10 20 30");
+    }
+
+    private static void noteWhereAllHaveARow() {
+        for (int changed = 0; changed < 8; changed++) {
+            SeedDrawers x = withEightRows();
+            due("note(" + changed + ", 5)", x.note(changed, 5), 1);
+            for (int d = 0; d < 8; d++) {
+                due("told(" + d + ", 0)", x.told(d, 0), d == changed ? 1 : 2 + COUNTS);
+                due("told(" + d + ", 2)", x.told(d, 2), d == changed ? 5 : 0);
+                due("sum(" + d + ")", x.sum(d), d == changed ? 0 : 30 + 2 * d);
+            }
+        }
     }
 
     private static void noteUnknown() {

@@ -162,7 +162,7 @@ public final class OrdersEdgesTest extends Edges {
         test("17: op 2 swap(a, i, b, j)", OrdersEdgesTest::opSwap);
         test("17: op 3 turn(a)", OrdersEdgesTest::opTurn);
         test("17: op 4 pour(a, i, b, j, 3)", OrdersEdgesTest::opPour);
-        test("17: op 4 pours just 3, and a FAULT leaves what was laid", OrdersEdgesTest::opPourFaults);
+        test("17: op 4: a FAULT ends it, what was laid ahead of it stays", OrdersEdgesTest::opPourFaults);
         test("17: an ORDER's FAULTS are those of its call", OrdersEdgesTest::opFaults);
     }
 

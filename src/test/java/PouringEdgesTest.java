@@ -216,6 +216,7 @@ public final class PouringEdgesTest extends Edges {
         poursTo(2, 3, 7, 0, INDEX);
         poursTo(2, 20, 7, 0, INDEX);
         poursTo(4, 3, 4, 0, INDEX);
+        poursTo(4, 20, 4, 0, INDEX);
         poursTo(6, 0, 7, 0, INDEX);
         poursTo(7, 12, 7, 0, INDEX);
     }
@@ -237,6 +238,8 @@ public final class PouringEdgesTest extends Edges {
         poursTo(2, 2, 7, 20, INDEX);
         poursTo(2, 0, 2, 3, INDEX);
         poursTo(4, 1, 4, 3, INDEX);
+        poursTo(4, 0, 4, 20, INDEX);
+        poursTo(4, 1, 4, 20, INDEX);
     }
 
     private static void pourUnfit() {

@@ -211,6 +211,13 @@ public final class TellingEdgesTest extends Edges {
     }
 
     private static void toldSame() {
+        for (int kind = 0; kind <= 6; kind++) {
+            for (int n : new int[] {0, 1, 12}) {
+                SeedDrawers one = new SeedDrawers();
+                one.row(0, kind, n);
+                due("told(0, 1) of " + n + " places of kind " + kind, one.told(0, 1), 1);
+            }
+        }
         SeedDrawers x = new SeedDrawers();
         x.row(0, TICKS, 1);
         due("told(0, 1): itself", x.told(0, 1), 1);

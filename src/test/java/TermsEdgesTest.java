@@ -417,6 +417,8 @@ public final class TermsEdgesTest extends Edges {
         test("Terms: OUTSIDE ahead of a FAULT", TermsEdgesTest::outsideBeforeFault);
         test("Terms: STATE ahead of a FAULT", TermsEdgesTest::stateBeforeFault);
         test("Terms: -10 less the FAULT", TermsEdgesTest::minus10LessTheFault);
+        test("Terms: What is refused changes nothing", TermsEdgesTest::refusedCallsOneByOne);
+        test("Terms: what comes to a FAULT changes nothing but as told", TermsEdgesTest::faultsOneByOne);
     }
 
     private static void unknownBeforeFault() {
@@ -446,5 +448,74 @@ public final class TermsEdgesTest extends Edges {
         due("turn(1)", x.turn(1), -12);
         due("take(2, 3)", x.take(2, 3), -13);
         due("lay(4, 0)", x.lay(4, 0), -14);
+    }
+
+    private static void refusedCallsOneByOne() {
+        changesNothing("refused calls with a mark in the hand", TermsEdgesTest::makeRefusedCalls, 0);
+        changesNothingIn(Scene::fullWithCardInHand, "refused calls with a card in the hand",
+            TermsEdgesTest::makeRefusedCalls, 0);
+        changesNothingIn(Scene::fullWithEmptyHand, "refused calls with nothing in the hand",
+            TermsEdgesTest::makeRefusedCalls, 0);
+    }
+
+    private static long makeRefusedCalls(SeedDrawers x) {
+        due("row(8, 3, 1)", x.row(8, COUNTS, 1), UNKNOWN);
+        due("row(2, 7, 1)", x.row(2, 7, 1), OUTSIDE);
+        due("row(2, 3, 13)", x.row(2, COUNTS, 13), OUTSIDE);
+        due("note(-1, 5)", x.note(-1, 5), UNKNOWN);
+        due("share(8, 2)", x.share(8, 2), UNKNOWN);
+        due("share(2, -1)", x.share(2, -1), UNKNOWN);
+        due("clear(8)", x.clear(8), UNKNOWN);
+        due("think(6, 5)", x.think(6, 5), OUTSIDE);
+        due("take(-1, 0)", x.take(-1, 0), UNKNOWN);
+        due("lay(8, 0)", x.lay(8, 0), UNKNOWN);
+        due("size(8)", x.size(8), UNKNOWN);
+        due("pour(8, 0, 2, 0, 1)", x.pour(8, 0, 2, 0, 1), UNKNOWN);
+        due("pour(7, 0, 7, 21, 1)", x.pour(7, 0, 7, 21, 1), OUTSIDE);
+        due("swap(2, 0, 8, 0)", x.swap(2, 0, 8, 0), UNKNOWN);
+        due("turn(-1)", x.turn(-1), UNKNOWN);
+        due("sum(8)", x.sum(8), 0);
+        due("find(8)", x.find(8), UNKNOWN);
+        due("order(0, 2, 0, 8, 0)", x.order(0, 2, 0, 8, 0), UNKNOWN);
+        due("order(5, 2, 0, 2, 0)", x.order(5, 2, 0, 2, 0), OUTSIDE);
+        due("order(0, 2, 21, 2, 0)", x.order(0, 2, 21, 2, 0), OUTSIDE);
+        due("met(8)", x.met(8), NONE);
+        due("faults(5)", x.faults(5), NONE);
+        due("told(8, 0)", x.told(8, 0), UNKNOWN);
+        due("told(2, 3)", x.told(2, 3), OUTSIDE);
+        return 0;
+    }
+
+    private static void faultsOneByOne() {
+        SeedDrawers x = Scene.full();
+        for (int i : new int[] {-1, 3}) {
+            due("take(2, " + i + ")", x.take(2, i), -13);
+            due("lay(2, " + i + ")", x.lay(2, i), -13);
+            due("swap(2, " + i + ", 2, 0)", x.swap(2, i, 2, 0), -13);
+            due("swap(2, 0, 2, " + i + ")", x.swap(2, 0, 2, i), -13);
+        }
+        for (int d = 0; d < 2; d++) {
+            long answer = d == 0 ? -11 : -12;
+            due("take(" + d + ", 0)", x.take(d, 0), answer);
+            due("lay(" + d + ", 0)", x.lay(d, 0), answer);
+            due("size(" + d + ")", x.size(d), answer);
+            due("swap(2, 0, " + d + ", 0)", x.swap(2, 0, d, 0), answer);
+            due("turn(" + d + ")", x.turn(d), answer);
+            due("sum(" + d + ")", x.sum(d), 0);
+            due("find(" + d + ")", x.find(d), answer);
+            due("pour(2, 0, " + d + ", 0, 3)", x.pour(2, 0, d, 0, 3), -100);
+        }
+        due("lay(5, 0)", x.lay(5, 0), -14);
+        due("swap(7, 0, 2, 0)", x.swap(7, 0, 2, 0), -14);
+        due("swap(2, 0, 7, 0)", x.swap(2, 0, 7, 0), -14);
+        due("pour(4, 0, 2, 0, 3)", x.pour(4, 0, 2, 0, 3), -100);
+        // Three faults were met in a full scene: NULL, KIND and INDEX.
+        due("faults(1)", x.faults(1), 1 + 8);
+        due("faults(2)", x.faults(2), 1 + 8);
+        due("faults(3)", x.faults(3), 1 + 8);
+        due("faults(4)", x.faults(4), 4);
+        due("faults(0)", x.faults(0), 3 + 28);
+        due("fault()", x.fault(), UNFIT);
+        alike("calls that came to faults", x, Scene.full());
     }
 }
